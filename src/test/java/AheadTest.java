@@ -176,6 +176,16 @@ public final class AheadTest {
         Check.raises("none returns", canyon, NoSuchElementException.class, () -> canyon.bestLoudness(0, false));
         Check.raises("player", canyon, IndexOutOfBoundsException.class, () -> canyon.bestLoudness(1, true));
         Check.raises("player", canyon, IndexOutOfBoundsException.class, () -> canyon.bestLoudness(-1, true));
+        canyon.wall(6, 9);
+        Check.due("the loudest of all", 20, canyon.bestLoudness(0, true));
+        canyon.wall(6, 0);
+        canyon.wall(12, 9);
+        canyon.wind(-1);
+        Check.raises("too far for all", canyon, NoSuchElementException.class, () -> canyon.bestLoudness(0, true));
+        canyon.wall(12, 0);
+        canyon.wall(10, 9);
+        Check.due("just one returns", 20, canyon.bestLoudness(0, true));
+        Check.due("just so", 1, canyon.returns(0, true, 20));
         bestOfSeveral();
     }
 

@@ -10,6 +10,7 @@ public final class PlayersTest {
         promise8catchEcho();
         promise8loudestThenLowest();
         promise8numbersClose();
+        promise8ofEightSounds();
         promise8refusals();
         promise12playerOf();
         Check.finish();
@@ -178,6 +179,24 @@ public final class PlayersTest {
         Check.due("a new one behind it", 2, canyon.shout(0, true, 1));
         Check.due("the new one", 1, canyon.soundOf(2, 1));
         Check.due("not thrown back", 0, canyon.soundOf(2, 3));
+        Check.due("the one ahead stays as it is", 11, canyon.soundOf(1, 1));
+    }
+
+    private static void promise8ofEightSounds() {
+        EchoCanyon canyon = new EchoCanyon();
+        canyon.wall(6, 9);
+        canyon.player(0, 5);
+        for (int sound = 0; sound < 8; sound++) {
+            canyon.shout(0, true, 3);
+        }
+        canyon.beat();
+        Check.due("eight echoes", 0b11111111, canyon.echoesAt(5));
+        Check.due("the eighth place", 7, canyon.loudest(7));
+        for (int left = 7; left >= 0; left--) {
+            Check.due("as loud as can just be", 1, canyon.catchEcho(0));
+            Check.due("left", (1 << left) - 1, canyon.echoesAt(5));
+        }
+        Check.due("points", 18, canyon.teamOf(0, 0));
     }
 
     private static void promise8refusals() {

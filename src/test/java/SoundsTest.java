@@ -260,6 +260,11 @@ public final class SoundsTest {
         }
         Check.raises("place", canyon, NoSuchElementException.class, () -> canyon.loudest(4));
         Check.raises("place", canyon, NoSuchElementException.class, () -> canyon.loudest(-1));
+        EchoCanyon falling = withShout(5, true, 20);
+        falling.player(1, 5);
+        falling.shout(1, true, 10);
+        Check.due("the first is the loudest", 0, falling.loudest(0));
+        Check.due("then the second", 1, falling.loudest(1));
     }
 
     private static void promise37meanLoudness() {

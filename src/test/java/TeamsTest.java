@@ -6,6 +6,7 @@ public final class TeamsTest {
         promise11teamOf();
         promise11refusals();
         promise27ranked();
+        promise27edgePlaces();
         promise27refusals();
         promise29isEven();
         Check.finish();
@@ -57,6 +58,20 @@ public final class TeamsTest {
             for (int place = 0; place < 3; place++) {
                 Check.due("measure " + measure + ", " + place, due[measure][place], canyon.ranked(measure, place));
             }
+        }
+    }
+
+    private static void promise27edgePlaces() {
+        EchoCanyon canyon = new EchoCanyon();
+        canyon.wall(0, 3);
+        canyon.wall(7, 2);
+        canyon.wall(15, 4);
+        canyon.own(0, 7);
+        canyon.own(1, 0);
+        canyon.own(2, 15);
+        int[] due = {2, 1, 0};
+        for (int place = 0; place < 3; place++) {
+            Check.due("heights, " + place, due[place], canyon.ranked(2, place));
         }
     }
 
