@@ -1,4 +1,6 @@
 import java.util.NoSuchElementException;
+import java.util.function.Consumer;
+import java.util.function.Supplier;
 
 /** What the tests share: calls with the answers that are due, and the whole state of a canyon as a text. */
 final class Check {
@@ -38,6 +40,20 @@ final class Check {
         raisesOnly(what, UnsupportedOperationException.class, call);
         due(what + ", state afterwards", before, stateOf(canyon));
         due(what + ", reason", reason + "/" + detail + "/0", reasonOf(canyon));
+    }
+
+    /** A call on one of two canyons made alike must throw just this class, and leave the two alike all through. */
+    static void leavesAlike(String what, Supplier<EchoCanyon> maker, Class<? extends RuntimeException> type,
+            Consumer<EchoCanyon> call) {
+        EchoCanyon called = maker.get();
+        raisesOnly(what, type, () -> call.accept(called));
+        EchoCanyon other = maker.get();
+        if (type == UnsupportedOperationException.class) {
+            due(what + ", a reason is kept", false, reasonOf(called).equals("none"));
+        } else {
+            due(what + ", reason", reasonOf(other), reasonOf(called));
+        }
+        due(what + ", all of the state", wholeOf(other), wholeOf(called));
     }
 
     static void raisesOnly(String what, Class<? extends RuntimeException> type, Runnable call) {
@@ -124,6 +140,27 @@ final class Check {
     static String stateOf(EchoCanyon canyon) {
         return undoableOf(canyon) + "undos " + canyon.account(10) + " text " + canyon.account(11)
                 + " fault " + canyon.faultPosition() + " line " + lineOf(canyon) + "\n";
+    }
+
+    /** All but the reason, with the text, what undo brings back and the snapshot; the canyon is used up by that. */
+    static String wholeOf(EchoCanyon canyon) {
+        StringBuilder whole = new StringBuilder(stateOf(canyon));
+        int changes = canyon.account(10);
+        for (int left = changes; left > 0; left--) {
+            canyon.undo();
+            whole.append("undone ").append(undoableOf(canyon));
+        }
+        whole.append("snapshot ").append(answerOf(() -> canyon.restore())).append(' ').append(undoableOf(canyon));
+        whole.append("commands ").append(answerOf(() -> canyon.commands())).append(' ').append(undoableOf(canyon));
+        return whole.append("fault ").append(canyon.faultPosition()).toString();
+    }
+
+    private static String answerOf(Supplier<Integer> call) {
+        try {
+            return call.get().toString();
+        } catch (RuntimeException thrown) {
+            return thrown.getClass().getName();
+        }
     }
 
     static String reasonOf(EchoCanyon canyon) {
