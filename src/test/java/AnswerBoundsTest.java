@@ -17,7 +17,9 @@ public final class AnswerBoundsTest {
         noBeatsAndTwenty();
         zeroIfGone();
         soonestAndLatest();
+        goneAmongOthers();
         zeroIfThere();
+        firstOfSeveral();
         zeroIfNever();
         forTheFirstTime();
         leastOfSeveral();
@@ -29,6 +31,7 @@ public final class AnswerBoundsTest {
         pointsTogether();
         newLength();
         lineOfWalls();
+        placeOfTheLineBefore();
         lineOfSound();
         emptyAtFirst();
         soFar();
@@ -285,6 +288,28 @@ public final class AnswerBoundsTest {
         Check.due("gone", 1, canyon.beat());
     }
 
+    /** 19: "Returns the same by a second way: with all sounds, beat by beat." */
+    private static void goneAmongOthers() {
+        int[] loudnesses = {1, 3, 5, 7, 9, 11};
+        for (int turn = 0; turn < 6; turn++) {
+            for (int step = 1; step <= 5; step += 4) {
+                EchoCanyon canyon = new EchoCanyon();
+                for (int sound = 0; sound < 6; sound++) {
+                    canyon.player(0, 6);
+                    canyon.shout(sound, true, loudnesses[(turn + step * sound) % 6]);
+                }
+                for (int beats = 0; beats < 6; beats++) {
+                    for (int sound = 0; sound < canyon.account(2); sound++) {
+                        int left = (canyon.soundOf(sound, 1) + 1) / 2;
+                        Check.due("gone in", left, canyon.goneIn(sound));
+                        Check.due("gone in again", left, canyon.goneInAgain(sound));
+                    }
+                    Check.due("one after the other", 1, canyon.beat());
+                }
+            }
+        }
+    }
+
     /** 20: "Returns behind how many, 0 if one is there." */
     private static void zeroIfThere() {
         EchoCanyon canyon = with("w9=9;p0@8;p0@7;p0@6;s0+20");
@@ -307,6 +332,32 @@ public final class AnswerBoundsTest {
         Check.due("late", 15, late.comes(1));
         Check.due("the latest", 16, late.comes(2));
         Check.due("the latest", 16, late.comesAgain(2));
+    }
+
+    /** 21: "Returns the same by a second way: sound by sound." */
+    private static void firstOfSeveral() {
+        int[][] orders = {{0, 1, 2}, {0, 2, 1}, {1, 0, 2}, {1, 2, 0}, {2, 0, 1}, {2, 1, 0}};
+        for (int[] order : orders) {
+            EchoCanyon canyon = with("w9=9;p0@8;p0@7;p0@6;p1@8;p1@10");
+            canyon.shout(4, true, 20);
+            for (int player : order) {
+                canyon.shout(player, true, 20);
+            }
+            Check.due("from 8", 1, canyon.comes(3));
+            Check.due("from 8", 1, canyon.comesAgain(3));
+            canyon.beat();
+            canyon.catchEcho(3);
+            Check.due("from 7", 1, canyon.comes(3));
+            Check.due("from 7", 1, canyon.comesAgain(3));
+            canyon.beat();
+            canyon.catchEcho(3);
+            Check.due("from 6", 1, canyon.comes(3));
+            Check.due("from 6", 1, canyon.comesAgain(3));
+            canyon.beat();
+            canyon.catchEcho(3);
+            Check.raises("none", canyon, NoSuchElementException.class, () -> canyon.comes(3));
+            Check.raises("none", canyon, NoSuchElementException.class, () -> canyon.comesAgain(3));
+        }
     }
 
     /** 22: "Returns its loudness then, 0 if it never would be." */
@@ -542,6 +593,25 @@ public final class AnswerBoundsTest {
                 }
             }
         }
+    }
+
+    /** 34: "Writes the canyon, in place of the line before: for each place the height of its wall, and the letter "a",
+     * "b" or "c" of the team to which it belongs behind it, if it belongs to one, or "." without a wall." */
+    private static void placeOfTheLineBefore() {
+        EchoCanyon canyon = with("w0=4;o0@0;p1@7;s0+20");
+        String walls = "4a...............";
+        for (int times = 0; times < 3; times++) {
+            Check.due("longer by the team", 17, canyon.line());
+            Check.due("line", walls, Check.lineOf(canyon));
+            Check.due("length", 5, canyon.soundLine(0));
+            Check.due("shorter than before", "7>20b", Check.lineOf(canyon));
+            canyon.line();
+            Check.due("longer than before", 17, canyon.line());
+        }
+        canyon.wall(0, 0);
+        Check.due("not written anew by a change", walls, Check.lineOf(canyon));
+        Check.due("shorter", 16, canyon.line());
+        Check.due("line", ".".repeat(16), Check.lineOf(canyon));
     }
 
     /** 35: "Writes a sound, in place of the line before: its place, ">" or "<" for where it goes, its loudness, the
