@@ -14,7 +14,7 @@ import java.util.stream.Stream;
 /**
  * The sentences of the document that tests stand for: a test names its sentence in its comment, between quotation marks,
  * with the number of the promise ahead of it if it is one of a promise. Each sentence of "Terms" and each line "Throws"
- * must have a test, and no test may name a sentence that the document does not have.
+ * must have a test, each promise one or more, and no test may name a sentence that the document does not have.
  */
 public final class SentencesTest {
     private static final Path DOCUMENT = Path.of("../shared/DOC.md");
@@ -32,6 +32,7 @@ public final class SentencesTest {
             }
         }
         int sentences = sentencesOfTermsAreTested() + throwsAreTested();
+        promisesAreTested();
         Check.due("sentences found", true, sentences > 95);
         Check.finish();
     }
@@ -90,5 +91,13 @@ public final class SentencesTest {
             }
         }
         return count;
+    }
+
+    private static void promisesAreTested() {
+        for (int promise = 1; promise <= 42; promise++) {
+            String number = promise + " ";
+            boolean isTested = TESTED.stream().anyMatch(sentence -> sentence.startsWith(number));
+            Check.due("promise " + promise + " is tested", true, isTested);
+        }
     }
 }
